@@ -810,7 +810,7 @@ public final class Warehouselore {
             for (int l = 0; l < order.lines.size(); l++) {
                 wanted += order.lines.get(l).item == item ? order.lines.get(l).lacking() : 0;
             }
-            if (wanted > 0 && wanted > piecesGoodFor(order, item)) {
+            if (wanted > piecesGoodFor(order, item)) {
                 return false;
             }
         }
