@@ -10,7 +10,8 @@ import java.util.TreeMap;
 
 /** Runs of up to 512 random calls, each compared with PlainWarehouse; wrong arguments among them. */
 public final class RandomRunsTest {
-    private static final int RUNS = Integer.getInteger("runs", 3000);
+    private static final int USUAL_RUNS = 3000;
+    private static final int RUNS = Integer.getInteger("runs", USUAL_RUNS);
     private static final int CALLS = 512;
     private static final String[] ASKING = {"stock", "stockAnew", "free", "room", "others", "lacks", "held", "where",
         "doing", "tasks", "taskAt", "standstills", "boxes", "boxAt", "sent", "received", "bill"};
@@ -40,7 +41,7 @@ public final class RandomRunsTest {
         for (String what : new String[] {"standstills", "task.12", "task.13", "task.22", "task.23", "task.22 short", "task.23 whole",
             "moreThanOneBox", "sure less", "sure more", "putAway.none", "wave.IllegalStateException", "refill.made",
             "comeBack", "judge", "recall.some", "ringOfThree", "roomBelow0"})
-            checks.due("runs that show " + what, SEEN.getOrDefault(what, 0) > 0, true);
+            checks.due("runs that show " + what, RUNS < USUAL_RUNS || SEEN.getOrDefault(what, 0) > 0, true);
         checks.close();
     }
 

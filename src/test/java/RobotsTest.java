@@ -69,6 +69,15 @@ public final class RobotsTest {
         c.due("PICKs", y.wave(0, 3), 6);
         int[] due = {2105, 2106, 2103, 2107, 2130, 2101};
         for (int k = 0; k < 6; k++) c.due("by lots, then by orders, then what was held first: " + k, y.taskAt(k), due[k]);
+        Warehouselore z = Steps.withLots();
+        Steps.lay(z, 4, 0, 30);
+        Steps.lay(z, 4, 1, 30);
+        for (int o = 0; o < 8; o++) z.order(o == 0 ? 9 : 0, false, 0);
+        z.line(0, 1, 3);
+        z.line(7, 0, 4);
+        z.allocate();
+        c.due("of the first and of the last order", z.wave(0, 255), 2);
+        c.due("the lot 0, though its order is the last", z.taskAt(0), 2104);
     }
 
     private static void waveThrows() { // 22
