@@ -100,6 +100,7 @@ final class Answers {
         counting(got, scene.get());
         working(got, scene.get());
         settingUp(got, scene.get());
+        telling(got, scene.get());
         long[] all = new long[got.size()];
         for (int i = 0; i < all.length; i++) all[i] = got.get(i);
         return all;
@@ -171,6 +172,8 @@ final class Answers {
             int pieces = 1 + 3 * k % 20, lot = k % 2;
             tell(got, x, y -> y.putAway(lot, pieces));
         }
+        tell(got, x, y -> { y.item(4, 1, 1, 1, 0, 1); return 0; });
+        tell(got, x, y -> { y.item(5, 2, 1, 1, 0, 1); return 0; });
         for (int s = 0; s < 18; s++) {
             int slot = s;
             tell(got, x, y -> y.room(slot));
@@ -184,5 +187,32 @@ final class Answers {
             tell(got, x, y -> y.bar(both / 4, both % 4, false) ? 1 : 0);
         }
         tell(got, x, y -> y.pass(1));
+    }
+
+    /** What each item is like: its size by the room, its cases by a refilling, its weight by a box. */
+    private static void telling(List<Long> got, Warehouselore x) {
+        for (int i = 0; i < 6; i++) {
+            int item = i;
+            long made = answer(y -> y.lot(item, 9000), x);
+            int lot = made == THROWN ? i : (int) made;
+            got.add(made);
+            for (int k = 0; k < 3; k++) {
+                int time = k;
+                tell(got, x, y -> time == 0 ? y.find(item, lot, 25) : y.count(item, lot));
+            }
+            tell(got, x, y -> y.room(item));
+            tell(got, x, y -> { y.face(12 + item, item, 13, 13); return 0; });
+            tell(got, x, Warehouselore::refill);
+            tell(got, x, y -> y.taskAt(y.tasks() - 1));
+            tell(got, x, y -> y.order(9, false, 0));
+            tell(got, x, y -> y.line(item, item, 1));
+        }
+        tell(got, x, Warehouselore::allocate);
+        tell(got, x, y -> y.wave(2, 255));
+        for (int k = 0; k < 3; k++) tell(got, x, y -> y.pass(50));
+        for (int o = 0; o < 8; o++) {
+            int order = o;
+            tell(got, x, y -> y.boxAt(order, 0));
+        }
     }
 }
