@@ -176,6 +176,13 @@ public final class LimitsTest {
             Steps.lay(z, s, 1, 1);
             Steps.lay(z, 17, 0, 1);
             c.due("one piece of the lot is enough", z.putAway(0, 1), 17);
+            Warehouselore w = Steps.withLots();
+            int second = w.lot(0, 9);
+            w.receive(0, second, 9);
+            w.slot(s, 0, 50);
+            Steps.lay(w, s, 1, 30);
+            Steps.lay(w, 17, 0, 1);
+            c.due("one piece of the item is enough, of another lot", w.putAway(second, 1), 17);
         }
     }
 
